@@ -89,7 +89,8 @@ final class Checks {
 
     static void played(String text, int... want) {
         AbcForms x = new AbcForms(1);
-        read(x, "X:1\nT:a\nM:1/8\nK:C\n" + text);
+        // the blank keeps a letter with a : behind it from being a change's line
+        read(x, "X:1\nT:a\nM:1/8\nK:C\n " + text + "\\");
         due("played(-1) of " + text, x.played(-1), want.length);
         for (int i = 0; i < want.length; i++) {
             due("played(" + i + ") of " + text, x.played(i), want[i]);
