@@ -683,6 +683,7 @@ public final class AbcForms {
         final long[] meters;
         /** Signs written since the latest bar, as sign + 3; 0 is none. */
         final int[] marks;
+        boolean marked;
         int measureCount;
         boolean open;
         long now;
@@ -708,14 +709,17 @@ public final class AbcForms {
             meterNumber = head.length > HEAD_METER ? head[HEAD_METER] : 0;
             meterLower = head.length > HEAD_LOWER ? head[HEAD_LOWER] : 0;
             unit = head.length > HEAD_UNIT ? head[HEAD_UNIT] : 0;
+            marked = true;
             clearMarks();
             forgetLast();
         }
 
+        /** Most bars come without a mark to clear, so the row is passed over then. */
         void clearMarks() {
-            for (int i = 0; i < MARKS; i++) {
+            for (int i = 0; i < MARKS && marked; i++) {
                 marks[i] = 0;
             }
+            marked = false;
         }
 
         void forgetLast() {
@@ -785,6 +789,7 @@ public final class AbcForms {
             int place = markPlace(rule, letter, octave);
             if (place >= 0 && place < MARKS) {
                 marks[place] = sign + 3;
+                marked = true;
             }
         }
 

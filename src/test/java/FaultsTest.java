@@ -70,6 +70,7 @@ public final class FaultsTest {
         Checks.tune(0, wholes + "(3A12AB", 3);
         Checks.fault(wholes + "A<B6", 4, 20);
         Checks.tune(0, wholes + "B>A16", 2);
+        Checks.tune(0, wholes + "(3A8>BC", 3);
         Checks.fault(wholes + "B>A16>B", 4, 20);
         Checks.fault(wholes + "B>A17", 4, 20);
         Checks.fault(wholes + "[c4e6]>|", 5, 25);

@@ -51,8 +51,8 @@ public final class HeadsTest {
     }
 
     private static void units() {
-        String[] told = {"M:2/4", "M:5/8", "M:6/8", "M:3/4", "M:11/16", "M:12/16", "M:C", "M:C|", "M:none", "M:1/1", "M:23/32"};
-        int[] want = {16, 16, 8, 8, 16, 8, 8, 8, 8, 8, 16};
+        String[] told = {"M:2/4", "M:5/8", "M:6/8", "M:3/4", "M:11/16", "M:12/16", "M:C", "M:C|", "M:none", "M:1/1", "M:23/32", "M:1/8"};
+        int[] want = {16, 16, 8, 8, 16, 8, 8, 8, 8, 8, 16, 16};
         for (int i = 0; i < told.length; i++) {
             AbcForms x = Checks.tune(0, "X:1\nT:a\n" + told[i] + "\nK:C\nA", 1);
             Checks.due("unit for " + told[i], x.head(4), want[i]);
@@ -122,6 +122,7 @@ public final class HeadsTest {
         Checks.fault("X:1\nX:1\nT:a\nK:C", 1, 4);
         Checks.fault("X:1\nM:4/4\nT:a\nK:C", 1, 4);
         Checks.fault("X:1\nT:a\nM:4/4\nT:b\nK:C", 1, 14);
+        Checks.fault("X:1\nT:a\nT:b\nT:c\nT:d\nK:C", 1, 16);
         Checks.fault("X:1\nT:a\nL:1/8\nL:1/8\nK:C", 1, 14);
         Checks.fault("X:1\nT:a\nQ:8\nQ:9\nK:C", 1, 12);
         Checks.fault("X:1\nT:a\nV:1\nK:C", 1, 8);
@@ -153,7 +154,11 @@ public final class HeadsTest {
         Checks.fault(Checks.HEADS + "A\\\\", 1, 13);
         Checks.fault(Checks.HEADS + "A \\ B", 1, 14);
         Checks.fault(Checks.HEADS + "A\nW:b", 1, 14);
-        Checks.fault(Checks.HEADS + "A\na:|", 1, 14);
+        String letters = "aAzZkM";
+        for (int i = 0; i < letters.length(); i++) {
+            int place = letters.charAt(i) == 'M' ? 16 : 14;
+            Checks.fault(Checks.HEADS + "A\n" + letters.charAt(i) + ":|", 1, place);
+        }
         Checks.fault(Checks.HEADS + "A\n K:C", 1, 15);
         Checks.fault(Checks.HEADS + "V:0", 1, 14);
         Checks.fault(Checks.HEADS + "V:", 1, 14);

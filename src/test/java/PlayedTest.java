@@ -53,7 +53,9 @@ public final class PlayedTest {
     }
 
     private static void wrongNumbers() {
-        AbcForms x = Checks.music("|A:|B", 4);
+        AbcForms x = Checks.music("|2A|B", 4);
+        Checks.due("none is played", x.played(-1), 0);
+        Checks.due("the next tune", Checks.read(x, Checks.HEADS + "|A:|B"), 4);
         Checks.due("played(-1)", x.played(-1), 3);
         Checks.due("played(3)", x.played(3), AbcForms.BAD);
         Checks.due("played(-2)", x.played(-2), AbcForms.BAD);

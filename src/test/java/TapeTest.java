@@ -42,6 +42,10 @@ public final class TapeTest {
         Checks.due("feed at 2,399", x.feed(0, 0, 0, 0, 0), AbcForms.FULL);
         Checks.due("end(0)", x.end(0), 2379);
         Checks.due("feed at 2,379", x.feed(0, 0, 0, 0, 0), 2399);
+        Checks.due("end(2)", x.end(2), 2381);
+        Checks.due("feed at 2,381", x.feed(0, 0, 0, 0, 0), AbcForms.FULL);
+        Checks.due("end(19) again", x.end(19), 2380);
+        Checks.due("feed at 2,380", x.feed(0, 0, 0, 0, 0), 2400);
         AbcForms y = new AbcForms(0);
         y.feed(1, 2, 3, 4, 5);
         Checks.due("end(5)", y.end(5), 5);
