@@ -50,6 +50,11 @@ public final class PlayedTest {
     private static void zs() {
         Checks.played("Z2:|A", 0, 1, 0, 1, 2);
         Checks.played("|1Z2:|Z3|", 0, 1, 2, 3, 4);
+        int[] twice = new int[600];
+        for (int i = 0; i < 600; i++) {
+            twice[i] = i % 300;
+        }
+        Checks.played(Checks.times("Z16|", 18) + "Z12:|", twice);
     }
 
     private static void wrongNumbers() {

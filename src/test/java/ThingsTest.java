@@ -51,6 +51,8 @@ public final class ThingsTest {
         Checks.cells("RULE 1", one, 6, 1, 1, 0, 0, -1, -1, 0, -1, 0, 0, 0);
         AbcForms zero = Checks.tune(0, text, 11);
         Checks.cells("RULE 0", zero, 6, 1, 1, 1, 1, -1, -1, 0, 0, 0, 0, 0);
+        AbcForms far = Checks.tune(1, Checks.HEADS + "^C,,,,, C,,,,, C,,,, ^^B,,,,,, B,,,,,, __a'''' a'''' a'", 8);
+        Checks.cells("in every octave", far, 6, 1, 1, 0, 2, 2, -2, -2, 0);
         AbcForms bars = Checks.tune(1, "X:1\nT:a\nM:4/4\nK:C\n^c Z c ^c [1 c ^c || c ^c [K:C] c", 12);
         Checks.cells("since a BAR or a Z", bars, 6, 1, 0, 0, 1, 0, 0, 1, 0, 0, 1, 0, 1);
         AbcForms grace = Checks.tune(1, Checks.HEADS + "{^c}c {c}[_cc] ^^d{d}", 7);
@@ -182,7 +184,7 @@ public final class ThingsTest {
     }
 
     private static void marksAbove() {
-        AbcForms x = Checks.music(".~HTMPuvA .. B \"\"\"Am7 (x)\"!trill!c !abcdefABCDEF!\"12345678901234567890\"[ce] .|v{g}\nH[V:2]z", 8);
+        AbcForms x = Checks.music(".~HTMPuvA .. B \"\"\"Am7 (x)\"!trill!c !abczefABCZEF!\"12345678901234567890\"[ce] .|v{g}\nH[V:2]z", 8);
         Checks.cells("ornaments", x, 11, 255, 1, 0, 0, 0, 0, 0, 133);
         Checks.cells("words", x, 12, 0, 0, 3, 2, 0, 0, 0, 0);
         Checks.musicFault("!!", 1, 1);

@@ -35,8 +35,8 @@ public final class WrittenTest {
     }
 
     private static void lengths() {
-        each(1, Checks.HEADS + "A1 A2/2 A/2 A1/2 A2/4 A/4 A// A4/16 A3/2 A3/ A6/4 A64 A63/64 A12/8 A/64 A10",
-            "A", "A", "A/", "A/", "A/", "A/4", "A/4", "A/4", "A3/", "A3/", "A3/", "A64", "A63/64", "A3/", "A/64", "A10");
+        each(1, Checks.HEADS + "A1 A2/2 A/2 A1/2 A2/4 A/4 A// A4/16 A3/2 A3/ A6/4 A64 A63/64 A12/8 A/64 A10 A9 A/8 A9/8",
+            "A", "A", "A/", "A/", "A/", "A/4", "A/4", "A/4", "A3/", "A3/", "A3/", "A64", "A63/64", "A3/", "A/64", "A10", "A9", "A/8", "A9/8");
         AbcForms x = Checks.music("A[L:1/4]A[L:1/16]A2", 5);
         Checks.written(x, 0, "A");
         Checks.written(x, 2, "A");
