@@ -1241,6 +1241,10 @@ public final class AbcForms {
                 text.at++;
                 lengthLower = lengthLower * 2;
             }
+            // one more / would still be the length's, so it is met ahead of what is wrong with the time
+            if (!told && text.peek(0) == '/') {
+                text.fail(FAULT_BYTE, text.at);
+            }
         }
 
         private void readRest() {

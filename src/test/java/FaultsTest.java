@@ -4,6 +4,7 @@ public final class FaultsTest {
         bytes();
         numbers();
         times();
+        slashes();
         pitches();
         things();
         chords();
@@ -84,6 +85,32 @@ public final class FaultsTest {
         Checks.tune(0, small + "(9A/64AAAAAAAA", 9);
         Checks.fault(small + "(4A/64", 4, 21);
         Checks.fault(small + "[A/64]/2", 4, 20);
+    }
+
+    /** A seventh / is met while the timed is read, ahead of a time that cannot be; what is no length's is met behind it. */
+    private static void slashes() {
+        String small = "X:1\nT:a\nL:1/64\nK:C\n";
+        Checks.tune(0, small + "a////// z////// [ac/]////", 4);
+        Checks.fault(small + "(8a///////", 1, 28);
+        Checks.fault(small + "(8a//////", 4, 21);
+        Checks.fault(small + "(8a////// /", 4, 21);
+        Checks.fault(small + "(8a///////-", 1, 28);
+        Checks.fault(small + "(8a////////", 1, 28);
+        Checks.fault(small + "(8z///////", 1, 28);
+        Checks.fault(small + "(8x///////", 1, 28);
+        Checks.fault(small + "x//////-", 1, 26);
+        Checks.fault(small + "[a/c]///////", 1, 30);
+        Checks.fault(small + "[a/c]//////", 4, 20);
+        Checks.fault(small + "[a////////c]", 1, 27);
+        Checks.fault(small + "{a///////}", 1, 27);
+        Checks.tune(0, small + "{a//////}b", 2);
+        Checks.fault(small + "a>>b///////", 1, 29);
+        Checks.fault(small + "a>>b//////", 4, 22);
+        Checks.fault(small + "a///////>b", 1, 26);
+        Checks.fault(small + "(8a/64/", 4, 21);
+        Checks.fault(small + "(8a//////2", 4, 21);
+        Checks.fault("X:1\nT:a\nL:1/1\nK:C\nA17//", 4, 18);
+        Checks.musicFault("a,,,,,,,///////", 4, 0);
     }
 
     private static void pitches() {
