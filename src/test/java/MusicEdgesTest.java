@@ -323,6 +323,8 @@ public final class MusicEdgesTest {
         Checks.musicFault("(((([V:2](", 5, 9);
         Checks.music("((((A)(B))))", 2);
         Checks.music("(((((3ABC))))", 3);
+        Checks.musicFault("(((((0", 1, 5);
+        Checks.musicFault("(((((1", 1, 5);
         Checks.musicFault("A)", 5, 1);
         Checks.musicFault(")", 5, 0);
         Checks.musicFault("(A))", 5, 3);
@@ -569,6 +571,7 @@ public final class MusicEdgesTest {
             Checks.cells("a note is between", Checks.tune(rule, Checks.HEADS + "^c-|dc", 4), 6, 1, 0, 0, 0);
             Checks.cells("of a chord the first such", Checks.tune(rule, Checks.HEADS + "[_e^c=c]-|[ceg]", 7), 6, -1, 1, 0, 0, 1, -1, 0);
             Checks.cells("its own sign", Checks.tune(rule, Checks.HEADS + "^c-|=c-|c", 5), 6, 1, 0, 0, 0, 0);
+            Checks.cells("not from a grace behind it", Checks.tune(rule, Checks.HEADS + "^d-{_c}|c", 4), 6, 1, -1, 0, 0);
             Checks.cells("of its VOICE", Checks.tune(rule, Checks.HEADS + "^c-|[V:2]c[V:1]c", 4), 6, 1, 0, 0, 1);
             Checks.cells("over changes and bars", Checks.tune(rule, Checks.HEADS + "^c-|:\nK:F\n||[M:C]c", 6), 6, 1, 0, 0, 0, 0, 1);
         }

@@ -210,6 +210,8 @@ public final class TextEdgesTest {
                 Checks.musicFault("c\n" + letter + ":|", 1, change ? 4 : 2);
             }
         }
+        Checks.fault("X:1\nT:a\nM:C\nK:C\nZ:|", 1, 16);
+        Checks.tune(0, "X:1\nT:a\nM:C\nK:C\n Z:|", 2);
         Checks.music("c\n A:|", 3);
         Checks.music("c\n:|", 2);
     }

@@ -207,6 +207,8 @@ public final class ThingsEdgesTest {
         Checks.played("A:|B:|c:|", 0, 0, 1, 1, 2, 2);
         Checks.played("|:A|B||c|]d[|e:|", 0, 1, 2, 3, 4, 0, 1, 2, 3, 4);
         Checks.played("A|B|:|1c:|2d|:e:|", 0, 1, 2, 3, 4, 4);
+        Checks.played("A|1B:|c|:d:|", 0, 1, 0, 2, 3, 3);
+        Checks.played("A|1B:|c|:d|1e:|2f", 0, 1, 0, 2, 3, 4, 3, 5);
     }
 
     /** "1 goes when AGAIN is no, others when it is yes ..; if it does not go: m and those behind are passed over, up to the first with END .." */
